@@ -18,6 +18,11 @@ public final class PromisesTest {
             + "face g h c;face h i d;face i j e;face j k f;face k g b;"
             + "face l h g;face l i h;face l j i;face l k j;face l g k;";
 
+    // The sum of circle a is its target to the unit.
+    private static final String EXACT = "circle a angle 795;circle b radius 50558;circle c radius 5879;"
+            + "circle d radius 5879;circle e radius 5879;circle f radius 5879;circle g radius 2716;"
+            + "face a b c;face a c d;face a d e;face a e f;face a f g;scale 100;";
+
     private static int checks = 0;
     private static int wrong = 0;
     private static String part = "";
@@ -266,6 +271,20 @@ public final class PromisesTest {
         is("12 circles and 20 faces", net(ICOSAHEDRON).count(1), 20);
         netErrors();
         faceErrors();
+        for (char c = 0; c < 256; c++) {
+            boolean isBlank = c == ' ' || c == '\n';
+            boolean isBehind = c == ';' || c >= '0' && c <= '9';
+            CirclePacker one = new CirclePacker();
+            Calls.give(one, "circle a radius 5" + c + ";" + c);
+            int blank = c;
+            if (isBlank) {
+                is("readNet() with byte " + blank, one.readNet(), 1);
+            } else {
+                argument("readNet() with byte " + blank, one::readNet);
+                is("errorCode() with byte " + blank, one.errorCode(), 1);
+                is("errorPosition() with byte " + blank, one.errorPosition(), isBehind ? c == ';' ? 18 : 19 : 17);
+            }
+        }
     }
 
     private static void netErrors() {
@@ -437,6 +456,9 @@ public final class PromisesTest {
         is("radius", packer.radius(0), 3);
         is("30 commands", script(packer, "turn;".repeat(30)), 20);
         is("undo()", packer.undo(), 4);
+        is("15 repeats", script(packer, "repeat 1(turn;);".repeat(15)), 15);
+        is("29 repeats and a command", script(packer, "repeat 1();".repeat(29) + "turn;"), 1);
+        is("3080 empty rounds", script(packer, "repeat 10(" + "repeat 10();".repeat(28) + ");turn;"), 1);
     }
 
     private static void scriptErrors() {
@@ -775,6 +797,7 @@ public final class PromisesTest {
         is("defect(0)", packer.defect(0), 49051);
         is("defect(7)", packer.defect(7), 17453292);
         is("defect(8)", packer.defect(8), 31415926535L);
+        is("a defect of 0", net(EXACT).defect(0), 0);
         state("defect(1)", () -> packer.defect(1));
         packer.setRadius(0, 900);
         is("a defect below 0", packer.defect(0), 6283185307L - packer.sum(0));
@@ -791,6 +814,7 @@ public final class PromisesTest {
         is("worst() of one", net("circle a;").worst(), 0);
         CirclePacker equal = net("circle a angle 5;circle b angle 5;");
         is("worst() of equal ones", equal.worst(), 0);
+        is("worst() of a defect of 0", net(EXACT).worst(), 0);
     }
 
     static void promise25() {
@@ -847,6 +871,7 @@ public final class PromisesTest {
         state("solve() of a fixed one", () -> packer.solve(1));
         state("solve() without a face", () -> packer.solve(7));
         wrongCircles("solve()", packer, packer::solve);
+        is("a sum that is the target is enough", net(EXACT).solve(0), 100);
         // No radius is enough, and each is enough.
         is("solve() with too great an angle", net("circle a angle 180;circle b;circle c;face a b c;").solve(0), 1);
         CirclePacker any = net("circle a angle 1;circle b;circle c;face a b c;");
@@ -1096,7 +1121,10 @@ public final class PromisesTest {
 
     // Two small circles between two great ones: by the rounding the last one is put far off.
     private static CirclePacker farNet() {
-        CirclePacker packer = net("circle a;circle b radius 1;circle c radius 1;circle d;face a b c;face d c b;");
+        return far(net("circle a;circle b radius 1;circle c radius 1;circle d;face a b c;face d c b;"));
+    }
+
+    private static CirclePacker far(CirclePacker packer) {
         packer.setRadius(0, 1000000);
         packer.setRadius(3, 1000000);
         return packer;
@@ -1316,6 +1344,13 @@ public final class PromisesTest {
         unchanged("shift(1000001, 0)", packer, () -> packer.shift(1000001, 0));
         is("undo()", packer.undo(), 0);
         farShifts();
+        CirclePacker first = far(net("circle d;circle b radius 1;circle c radius 1;circle a;face a b c;face d c b;"));
+        first.lay(0);
+        for (int i = 0; i < 300; i++) {
+            first.shift(1000000, 0);
+        }
+        state("a shift of circle 0 beyond the bound", () -> first.shift(1, 0));
+        is("x(0)", first.x(0), 1000000000);
     }
 
     // 300 shifts from the bound of a layout to that of a shift, in each of four directions.

@@ -853,7 +853,6 @@ public final class CirclePacker {
             int first = text.byteAt(start);
             if (first == Text.NO_BYTE) {
                 kind = END;
-                behind = start;
             } else if (isLetter(first)) {
                 takeWord();
             } else if (isDigit(first)) {
@@ -971,10 +970,7 @@ public final class CirclePacker {
             circles = 0;
             faces = 0;
             scale = USUAL_RADIUS;
-            Arrays.fill(degrees, 0);
-            Arrays.fill(fixedRadii, 0);
             Arrays.fill(sides, NONE);
-            Arrays.fill(rowLengths, 0);
         }
 
         void copyFrom(Net other) {

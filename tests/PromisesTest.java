@@ -423,6 +423,14 @@ public final class PromisesTest {
         is("calm just beyond", script(still, "calm " + thousands + ";"), 1);
         is("it was solved", still.radius(0), still.solved(0));
         is("a radius that was changed", still.radius(0) != 1000, true);
+        String even = "circle a angle 55;circle b radius 1000;circle c radius 845;face a b c;";
+        is("unrest() of whole thousands", net(even).unrest(), 38038000);
+        CirclePacker equal = net(even);
+        is("calm that is just met", script(equal, "calm 38038;"), 1);
+        is("nothing was swept", equal.radius(0), 1000);
+        is("calm that is just not met", script(equal, "calm 38037;"), 1);
+        is("it was swept", equal.radius(0), equal.solved(0));
+        is("calm that is met", script(net(EXACT), "calm 0;"), 1);
         // The angle that is asked for cannot be had: the sweeps of the calm stay, and nothing was done.
         CirclePacker never = net("circle a angle 360;circle b radius 1000;circle c radius 1000;face a b c;");
         is("calm that cannot be had", script(never, "calm 0;set b 5;"), 0);
@@ -1376,8 +1384,14 @@ public final class PromisesTest {
             is("x", far.x(3), dx != 0 ? 1000000000 * dx : far.x(3));
             is("y", far.y(3), dy != 0 ? 1000000000 * dy : far.y(3));
             state("a shift beyond the bound", () -> far.shift(dx, dy));
+            is("at() where the square of a distance is too great", far.at(opposite(dx, far.x(3)), opposite(dy, far.y(3))),
+                    -1);
             argument("too great a shift comes first", () -> far.shift(1000001, 0));
         }
+    }
+
+    private static int opposite(int direction, int coordinate) {
+        return direction > 0 ? Integer.MIN_VALUE : direction < 0 ? Integer.MAX_VALUE : coordinate;
     }
 
     static void promise49() {
@@ -1576,6 +1590,15 @@ public final class PromisesTest {
         is("undo()", packer.undo(), 0);
         is("radius(0)", packer.radius(0), 1000);
         is("radius(1)", packer.radius(1), 1000);
+        for (int i = 0; i < 5; i++) {
+            packer.setRadius(2, 2000 + i);
+        }
+        is("calm behind 5 calls", script(packer, "calm 0;"), 0);
+        for (int i = 4; i >= 0; i--) {
+            is("undo()", packer.undo(), i);
+        }
+        is("radius(2)", packer.radius(2), 1000);
+        is("radius(0)", packer.radius(0), 1000);
         is("calm behind a set", script(packer, "set b 5;calm 0;"), 1);
         is("radius(0)", packer.radius(0), 1);
         is("undo()", packer.undo(), 0);

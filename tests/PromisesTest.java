@@ -283,6 +283,8 @@ public final class PromisesTest {
                 argument("readNet() with byte " + blank, one::readNet);
                 is("errorCode() with byte " + blank, one.errorCode(), 1);
                 is("errorPosition() with byte " + blank, one.errorPosition(), isBehind ? c == ';' ? 18 : 19 : 17);
+                netError("circle a;" + c + ";circle b;", 1, 9);
+                scriptError("turn;" + c + ";turn;", 1, 5);
             }
         }
     }

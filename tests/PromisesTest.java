@@ -98,16 +98,17 @@ public final class PromisesTest {
         return text.toString();
     }
 
-    // Radii and places, the order of the layout and what the net is.
+    // What the net is, radii and places, in few calls: an object is promised to serve 512 alone.
     private static String all(CirclePacker packer) {
         StringBuilder text = new StringBuilder();
-        for (int what = 0; what < 6; what++) {
-            text.append(packer.count(what)).append(' ');
+        text.append(packer.count(0)).append(' ').append(packer.count(1)).append(' ').append(packer.closure());
+        for (int c = 0; c < packer.count(0); c++) {
+            text.append(' ').append(packer.radius(c));
         }
-        for (int i = 0; i < 12; i++) {
-            text.append(packer.putAt(i)).append(' ');
+        for (int i = 0, c = packer.putAt(0); c >= 0; i++, c = packer.putAt(i)) {
+            text.append(' ').append(c).append(':').append(packer.x(c)).append(',').append(packer.y(c));
         }
-        return text.append(packer.closure()).append('\n').append(report(packer)).toString();
+        return text.toString();
     }
 
     private static void unchanged(String what, CirclePacker packer, Call call) {
@@ -124,12 +125,12 @@ public final class PromisesTest {
     private static void netError(String text, int code, int position) {
         CirclePacker packer = net(TRIANGLE);
         packer.lay(0);
-        String before = all(packer);
+        String before = all(packer) + report(packer);
         Calls.give(packer, text);
         argument("readNet() of " + text, packer::readNet);
         is("errorCode() of " + text, packer.errorCode(), code);
         is("errorPosition() of " + text, packer.errorPosition(), position);
-        same("what readNet() leaves of " + text, all(packer), before);
+        same("what readNet() leaves of " + text, all(packer) + report(packer), before);
         argument("truncate(1) behind " + text, () -> packer.truncate(1));
         is("undo() behind " + text, packer.undo(), 0);
     }
@@ -1612,7 +1613,7 @@ public final class PromisesTest {
         packer.lay(0);
         packer.turn();
         packer.setRadius(0, 5);
-        String before = all(packer);
+        String before = all(packer) + report(packer);
         is("save()", packer.save(), 3);
         is("undo() is left", packer.undo(), 2);
         packer.lay(0);
@@ -1621,7 +1622,7 @@ public final class PromisesTest {
         packer.readNet();
         packer.lay(3);
         is("restore()", packer.restore(), 3);
-        same("what was saved", all(packer), before);
+        same("what was saved", all(packer) + report(packer), before);
         packer.setRadius(2, 8);
         is("save() again", packer.save(), 3);
         packer.setRadius(2, 9);

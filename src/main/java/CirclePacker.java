@@ -734,14 +734,19 @@ public final class CirclePacker {
         return divisor == 0 ? 0 : dividend / divisor;
     }
 
-    // The greatest whole number whose square is not greater than n, for n below 2 to the 62nd.
+    // The greatest whole number whose square is not greater than n, or 0 if there is none: Newton's
+    // steps go down to it from any greater number, and 2 to the 32nd is greater for each n.
     private static long root(long n) {
-        long root = 0;
-        for (long bit = 1L << 30; bit > 0; bit >>= 1) {
-            long greater = root + bit;
-            if (greater * greater <= n) {
-                root = greater;
+        if (n <= 0) {
+            return 0;
+        }
+        long root = 1L << 32;
+        for (int i = 0; i < 64 && root > 0; i++) {
+            long next = (root + n / root) / 2;
+            if (next >= root) {
+                return root;
             }
+            root = next;
         }
         return root;
     }
@@ -1584,23 +1589,31 @@ public final class CirclePacker {
             return net.isFree(circle) && net.rowLength(circle) > 0;
         }
 
-        // The present radius and the next greater one are tried first, as most sweeps change little.
+        // Goes up or down from the present radius in growing steps until it has passed the radius
+        // that is sought, and halves from there: most sweeps change little.
         int solvedRadius(int circle) {
             if (!isSolvable(circle)) {
                 return NONE;
             }
             long target = targetOf(circle);
-            int present = packing.radiusOf(circle);
             int enough = 0;
             int tooGreat = MOST_RADIUS + 1;
-            int tried = present;
-            for (int i = 0; i < 64 && tooGreat - enough > 1; i++) {
+            int tried = packing.radiusOf(circle);
+            long step = 1;
+            for (int i = 0; i < 62 && tooGreat - enough > 1; i++) {
                 if (sumWith(circle, tried, 0) >= target) {
                     enough = tried;
                 } else {
                     tooGreat = tried;
                 }
-                tried = i == 0 && enough == present ? present + 1 : (enough + tooGreat) / 2;
+                if (tooGreat > MOST_RADIUS) {
+                    tried = (int) Math.min(MOST_RADIUS, enough + step);
+                } else if (enough == 0) {
+                    tried = (int) Math.max(1, tooGreat - step);
+                } else {
+                    tried = (enough + tooGreat) / 2;
+                }
+                step *= 2;
             }
             return Math.max(1, enough);
         }

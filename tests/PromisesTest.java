@@ -1,127 +1,5 @@
 /** The promises of the document, one by one: ordinary calls, the edges that it names, wrong inputs. */
-public final class PromisesTest {
-    private static final String TRIANGLE = "circle a radius 1000;circle b radius 1000;circle c radius 1000;face a b c;";
-    // Sides of 300, 500 and 400: a right angle at a.
-    private static final String RIGHT = "circle a radius 100;circle b radius 200;circle c radius 300;face a b c;";
-    private static final String WHEEL = "circle o;circle p radius 1000;circle q radius 1000;circle r radius 1000;"
-            + "circle s radius 1000;circle t radius 1000;circle u radius 1000;"
-            + "face o p q;face o q r;face o r s;face o s t;face o t u;face o u p;";
-    // Two free circles that ask for more and less than the triangle beside them gives.
-    private static final String PAIR = "circle a angle 60;circle b radius 500;circle c radius 700;circle d angle 90;"
-            + "face a b c;face d c b;";
-    private static final String TETRAHEDRON = "circle a;circle b;circle c;circle d;"
-            + "face a b c;face a c d;face a d b;face d c b;";
-    private static final String ICOSAHEDRON = "circle a;circle b;circle c;circle d;circle e;circle f;"
-            + "circle g;circle h;circle i;circle j;circle k;circle l;"
-            + "face a b c;face a c d;face a d e;face a e f;face a f b;"
-            + "face c b g;face d c h;face e d i;face f e j;face b f k;"
-            + "face g h c;face h i d;face i j e;face j k f;face k g b;"
-            + "face l h g;face l i h;face l j i;face l k j;face l g k;";
-
-    // The sum of circle a is its target to the unit.
-    private static final String EXACT = "circle a angle 795;circle b radius 50558;circle c radius 5879;"
-            + "circle d radius 5879;circle e radius 5879;circle f radius 5879;circle g radius 2716;"
-            + "face a b c;face a c d;face a d e;face a e f;face a f g;scale 100;";
-
-    private static int checks = 0;
-    private static int wrong = 0;
-    private static String part = "";
-
-    interface Call {
-        void run();
-    }
-
-    private static void is(String what, long got, long due) {
-        checks++;
-        if (got != due) {
-            wrong++;
-            System.out.println(part + ": " + what + " answered " + got + ", due is " + due);
-        }
-    }
-
-    private static void is(String what, boolean got, boolean due) {
-        is(what, got ? 1 : 0, due ? 1 : 0);
-    }
-
-    private static void same(String what, String got, String due) {
-        checks++;
-        if (!got.equals(due)) {
-            wrong++;
-            System.out.println(part + ": " + what + " answered " + got + ", due is " + due);
-        }
-    }
-
-    private static void fails(String what, Class<?> due, Call call) {
-        Object got = "nothing";
-        try {
-            call.run();
-        } catch (RuntimeException e) {
-            got = e.getClass();
-        }
-        checks++;
-        if (got != due) {
-            wrong++;
-            System.out.println(part + ": " + what + " throws " + got + ", due is " + due);
-        }
-    }
-
-    private static void index(String what, Call call) {
-        fails(what, IndexOutOfBoundsException.class, call);
-    }
-
-    private static void argument(String what, Call call) {
-        fails(what, IllegalArgumentException.class, call);
-    }
-
-    private static void state(String what, Call call) {
-        fails(what, IllegalStateException.class, call);
-    }
-
-    private static CirclePacker net(String text) {
-        CirclePacker packer = new CirclePacker();
-        Calls.give(packer, text);
-        packer.readNet();
-        return packer;
-    }
-
-    private static int script(CirclePacker packer, String text) {
-        Calls.give(packer, text);
-        return packer.runScript();
-    }
-
-    private static String report(CirclePacker packer) {
-        int length = packer.report();
-        StringBuilder text = new StringBuilder();
-        for (int i = 0; i < length; i++) {
-            text.append((char) packer.reportByte(i));
-        }
-        return text.toString();
-    }
-
-    // What the net is, radii and places, in few calls: an object is promised to serve 512 alone.
-    private static String all(CirclePacker packer) {
-        StringBuilder text = new StringBuilder();
-        text.append(packer.count(0)).append(' ').append(packer.count(1)).append(' ').append(packer.closure());
-        for (int c = 0; c < packer.count(0); c++) {
-            text.append(' ').append(packer.radius(c));
-        }
-        for (int i = 0, c = packer.putAt(0); c >= 0; i++, c = packer.putAt(i)) {
-            text.append(' ').append(c).append(':').append(packer.x(c)).append(',').append(packer.y(c));
-        }
-        return text.toString();
-    }
-
-    private static void unchanged(String what, CirclePacker packer, Call call) {
-        String before = all(packer);
-        try {
-            call.run();
-        } catch (RuntimeException e) {
-            same(what + " leaves", all(packer), before);
-            return;
-        }
-        is(what + " throws", false, true);
-    }
-
+public final class PromisesTest extends Checks {
     private static void netError(String text, int code, int position) {
         CirclePacker packer = net(TRIANGLE);
         packer.lay(0);
@@ -146,23 +24,6 @@ public final class PromisesTest {
         same("what runScript() leaves of " + text, all(packer), before);
         argument("truncate(1) behind " + text, () -> packer.truncate(1));
         is("undo() behind " + text, packer.undo(), 0);
-    }
-
-    private static void wrongCircles(String what, CirclePacker packer, java.util.function.IntConsumer call) {
-        for (int circle : new int[] {-1, packer.count(0), 12, Integer.MAX_VALUE, Integer.MIN_VALUE}) {
-            index(what + " of circle " + circle, () -> call.accept(circle));
-        }
-    }
-
-    private static void wrongPairs(String what, CirclePacker packer, java.util.function.IntBinaryOperator call) {
-        wrongCircles(what, packer, c -> call.applyAsInt(c, 0));
-        wrongCircles(what, packer, c -> call.applyAsInt(0, c));
-    }
-
-    private static void wrongFaces(String what, CirclePacker packer, java.util.function.IntConsumer call) {
-        for (int face : new int[] {-1, packer.count(1), 20, Integer.MAX_VALUE, Integer.MIN_VALUE}) {
-            index(what + " of face " + face, () -> call.accept(face));
-        }
     }
 
     // ---- texts
@@ -1069,11 +930,6 @@ public final class PromisesTest {
 
     // ---- layout
 
-    private static void place(String what, CirclePacker packer, int circle, int x, int y) {
-        is(what + ": x(" + circle + ")", packer.x(circle), x);
-        is(what + ": y(" + circle + ")", packer.y(circle), y);
-    }
-
     static void promise37() {
         CirclePacker packer = net(RIGHT + "circle d;");
         is("lay(0)", packer.lay(0), 3);
@@ -1666,14 +1522,19 @@ public final class PromisesTest {
         is("count(0)", empty.count(0), 0);
     }
 
-    public static void main(String[] args) throws ReflectiveOperationException {
+    private static void run(int promise) {
+        try {
+            PromisesTest.class.getDeclaredMethod("promise" + promise).invoke(null);
+        } catch (ReflectiveOperationException e) {
+            throw new IllegalStateException("promise " + promise, e);
+        }
+    }
+
+    public static void main(String[] args) {
         for (int i = 1; i <= 57; i++) {
-            part = "promise " + i;
-            PromisesTest.class.getDeclaredMethod("promise" + i).invoke(null);
+            int promise = i;
+            part("promise " + i, () -> run(promise));
         }
-        System.out.println(checks + " checks, " + wrong + " are not as due");
-        if (wrong != 0) {
-            System.exit(1);
-        }
+        end();
     }
 }

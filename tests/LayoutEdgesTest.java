@@ -286,6 +286,9 @@ public final class LayoutEdgesTest extends Checks {
             is("a gap of -bound", packer.overlaps(1), 0);
             packer.setRadius(0, 382);
             is("a gap less than -bound", packer.overlaps(1), 1);
+            CirclePacker beside = laid("face a c d;face b d c;", 0, 100, 100, 200, 300);
+            beside.setRadius(0, MOST);
+            is("circles 0 and 1", beside.overlaps(0), 1);
             CirclePacker right = laid(RIGHT + "circle d;");
             right.setRadius(0, MOST);
             is("neighbors, and one without a place", right.overlaps(0), 0);
@@ -453,8 +456,13 @@ public final class LayoutEdgesTest extends Checks {
             for (int what = 0; what < 4; what++) {
                 is("box(" + what + ")", packer.box(what), greater[what]);
             }
-            packer.setRadius(0, 1);
             packer.setRadius(1, 1);
+            packer.setRadius(0, MOST);
+            int[] first = {-MOST, -MOST, MOST, MOST};
+            for (int what = 0; what < 4; what++) {
+                is("box(" + what + ") by circle 0", packer.box(what), first[what]);
+            }
+            packer.setRadius(0, 1);
             packer.setRadius(2, 1);
             packer.shift(1000, 2000);
             int[] shifted = {999, 1999, 1301, 2401};
@@ -473,14 +481,16 @@ public final class LayoutEdgesTest extends Checks {
             far.turn();
             is("the least box(1)", far.box(1), -1001000000);
         });
-        part("Returns this number. Throws IllegalArgumentException if what is out of range. Throws"
-                + " IllegalStateException if no circle has a place", () -> {
+        part("Throws IllegalStateException if no circle has a place", () -> {
             CirclePacker packer = net(RIGHT);
             for (int what = 0; what < 4; what++) {
                 int w = what;
                 state("box(" + what + ")", () -> packer.box(w));
                 state("box(" + what + ") of a new object", () -> new CirclePacker().box(w));
             }
+        });
+        part("Throws IllegalArgumentException if what is out of range", () -> {
+            CirclePacker packer = net(RIGHT);
             for (int what : new int[] {-1, 4, Integer.MIN_VALUE, Integer.MAX_VALUE}) {
                 argument("box(" + what + ") before a layout", () -> packer.box(what));
                 argument("box(" + what + ") with places", () -> laid(RIGHT).box(what));
@@ -536,8 +546,14 @@ public final class LayoutEdgesTest extends Checks {
             for (int i = 0; i < 300; i++) {
                 far.shift(MOST, 0);
             }
-            is("the square of the distance is beyond all longs", far.at(Integer.MIN_VALUE, 500707), -1);
             is("in the far circle", far.at(1000000000, 500707), 3);
+            is("the square of the distance is beyond all longs", far.at(Integer.MIN_VALUE, 500707), -1);
+            far.turn();
+            is("the square of the distance is beyond all longs", far.at(-500707, Integer.MIN_VALUE), -1);
+            far.turn();
+            is("the square of the distance is beyond all longs", far.at(Integer.MAX_VALUE, -500707), -1);
+            far.turn();
+            is("the square of the distance is beyond all longs", far.at(500707, Integer.MAX_VALUE), -1);
         });
         part("Returns where two circles touch: the first (0) or second (1) coordinate u1 + (u2 - u1) * r1 / (r1 + r2),"
                 + " rounded towards 0 where it is divided, u1 and r1 being those of the first circle.", () -> {

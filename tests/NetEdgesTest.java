@@ -460,7 +460,7 @@ public final class NetEdgesTest extends Checks {
             same("report", report(packer), "abcdefgh 98765\n");
             for (int place = 0; place < 20; place++) {
                 int[] words = {0x20202020, 0x20202020, 0x20202020, 0x20202020, 0x20202020};
-                words[place / 4] ^= (0x20 ^ 0xe3) << 8 * (3 - place % 4);
+                words[place / 4] ^= 0x80 << 8 * (3 - place % 4);
                 packer.feed(words[0], words[1], words[2], words[3], words[4]);
                 argument("readNet() of a byte above 127", packer::readNet);
                 isError("byte " + place, packer, 1, place);
@@ -563,7 +563,9 @@ public final class NetEdgesTest extends Checks {
         part("Returns the number of statements.", () -> {
             reads("", 0);
             reads("scale 5;", 1);
-            reads(ICOSAHEDRON + "scale 5;", 33);
+            CirclePacker packer = reads(ICOSAHEDRON + "scale 5;", 33);
+            Calls.give(packer, "circle a;circle b;");
+            is("of each text anew", packer.readNet(), 2);
         });
         part("Returns the code of the error of the latest readNet() or runScript(); 0 if there was none or no such"
                 + " call.", () -> {

@@ -162,6 +162,9 @@ public final class RadiiEdgesTest extends Checks {
             is("a small defect", packer.worst(), 0);
             packer.setRadius(1, 900);
             is("one below 0", packer.worst(), 1);
+            CirclePacker first = net(WHEEL + "circle v angle 1;");
+            first.setRadius(0, 900);
+            is("one below 0 before a smaller one", first.worst(), 0);
         });
         part("Returns the sum of all defects (without their signs) of free circles.", () -> {
             is("a new object", new CirclePacker().unrest(), 0);
@@ -225,6 +228,15 @@ public final class RadiiEdgesTest extends Checks {
             is("solved(7)", packer.solved(7), -1);
             is("solved(8)", packer.solved(8), -1);
             is("what is left", packer.radius(7), 1000);
+        });
+        part("Throws IllegalStateException if it is fixed or has no face", () -> {
+            CirclePacker packer = net(WHEEL + "circle v;circle w radius 5;");
+            state("fixed", () -> packer.solve(6));
+            state("no face", () -> packer.solve(7));
+            state("both", () -> packer.solve(8));
+            packer.setRadius(6, 5);
+            state("fixed still", () -> packer.solve(6));
+            is("the others can be solved", packer.solve(0) > 0, true);
         });
         part("its radius becomes the greatest one from 1 to 1000000 with which its sum is at least its target (the radii"
                 + " of the others being as they are)", RadiiEdgesTest::greatest);
@@ -390,7 +402,7 @@ public final class RadiiEdgesTest extends Checks {
             is("slack 200", packer.lowSum(0, 200), angle(300, 1, 100));
             is("slack 1000", packer.lowSum(2, 1000), angle(1300, 1, 1));
             is("no face", packer.lowSum(3, 1000), 0);
-            is("beyond 1000000", triangle(MOST, 1, 2000).lowSum(0, 1000), angle(MOST + 1000, 1, 1000));
+            is("beyond 1000000", triangle(MOST, MOST, MOST).lowSum(0, 1000), angle(MOST + 1000, MOST - 1000, MOST - 1000));
             is("a ring", around(true).lowSum(0, 7), 11 * angle(8, 993, 993));
         });
         part("the high sum that with its own radius as small and all others as great as possible.", () -> {
@@ -442,8 +454,14 @@ public final class RadiiEdgesTest extends Checks {
             is("just beyond", packer.isCertain(0, 3, high - 1), false);
             is("a sum that is the target", net(EXACT).isCertain(0, 0, 0), true);
         });
-        part("bound: 0 to 2000000000. Returns whether a circle is certain within a bound by a slack; false if it is"
-                + " fixed. Throws IllegalArgumentException if bound is out of range, too", () -> {
+        part("Returns whether a circle is certain within a bound by a slack; false if it is fixed.", () -> {
+            CirclePacker packer = net("circle a radius 1;" + WHEEL);
+            is("a free one", packer.isCertain(1, 0, 49051), true);
+            is("a fixed one without a face", packer.isCertain(0, 0, 2000000000), false);
+            is("a fixed one with a sum", packer.isCertain(2, 0, 2000000000), false);
+            is("a fixed one, the greatest slack", packer.isCertain(2, 1000, 0), false);
+        });
+        part("Throws IllegalArgumentException if bound is out of range, too", () -> {
             CirclePacker packer = net("circle a angle 114;circle b radius 1;circle c angle 115;");
             is("bound 2000000000", packer.isCertain(0, 1000, 2000000000), true);
             is("114 degrees are less", packer.isCertain(0, 1000, 1989675347), true);

@@ -96,6 +96,16 @@ public final class StateEdgesTest extends Checks {
                 is("undo() of none behind " + calls, packer.undo(), -1);
                 is("radius(0)", packer.radius(0), 100 + calls - kept);
             }
+            CirclePacker full = net(RESTLESS);
+            for (int i = 1; i <= 5; i++) {
+                full.setRadius(1, i);
+            }
+            is("a script by which no command was done", script(full, "calm 0;"), 0);
+            for (int i = 4; i >= 0; i--) {
+                is("undo() behind it", full.undo(), i);
+                is("radius(1)", full.radius(1), i == 0 ? 1000 : i);
+            }
+            is("radius(0)", full.radius(0), 1000);
             // Calls and undos in turns, three steps on and one back, so that the rows of what is kept go round.
             CirclePacker packer = net(TEXT);
             List<Integer> due = new ArrayList<>();
@@ -283,8 +293,10 @@ public final class StateEdgesTest extends Checks {
             packer.setRadius(0, 5);
             String before = all(packer) + report(packer);
             is("save()", packer.save(), 7);
-            Calls.give(packer, "circle z;");
+            Calls.give(packer, "circle z;circle y;circle x;face x y z;");
             packer.readNet();
+            packer.lay(0);
+            packer.shift(77, 88);
             packer.report();
             Calls.give(packer, "circle");
             argument("readNet()", packer::readNet);
@@ -422,6 +434,8 @@ public final class StateEdgesTest extends Checks {
     // A packer with something of everything: a report, a layout, a saved state, 5 calls to undo, an error and a text.
     private static CirclePacker busy(String text) {
         CirclePacker packer = net(TEXT);
+        Calls.give(packer, "circle a radius 0;");
+        argument("readNet()", packer::readNet);
         packer.lay(0);
         packer.save();
         packer.report();
@@ -430,8 +444,6 @@ public final class StateEdgesTest extends Checks {
         packer.sweep();
         packer.turn();
         packer.setRadius(1, 250);
-        Calls.give(packer, "circle a radius 0;");
-        argument("readNet()", packer::readNet);
         Calls.give(packer, text);
         return packer;
     }

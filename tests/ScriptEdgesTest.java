@@ -185,6 +185,7 @@ public final class ScriptEdgesTest extends Checks {
                 is("x(1)", packer.x(1), number % 4 == 0 ? 300 : number % 4 == 2 ? -300 : 0);
             }
             is("nothing in brackets", script(laid(RIGHT), "repeat 10();turn;"), 1);
+            is("2800 times nothing", script(laid(RIGHT), "repeat 10(" + "repeat 10();".repeat(28) + ");turn;"), 1);
             is("in another", script(laid(RIGHT), "repeat 3(turn;repeat 4(turn;);turn;);"), 18);
             is("a repeat is begun again in each round", script(laid(RIGHT), "repeat 2(repeat 2(turn;);repeat 3(turn;););"),
                     10);
